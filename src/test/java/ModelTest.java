@@ -47,13 +47,15 @@ public final class ModelTest {
             }
         }
         int runs = args.length > 0 ? Integer.parseInt(args[0]) : RUNS;
-        for (int run = 0; run < runs; run++) {
-            new ModelTest(run).go(lots);
+        boolean isWrong = false;
+        for (int run = 0; run < runs && !isWrong; run++) {
+            isWrong = new ModelTest(run).isWrong(lots);
         }
         DUE.end();
     }
 
-    private void go(List<String> lots) throws Exception {
+    /** Whether a run of calls, till the first wrong one, has such a one. */
+    private boolean isWrong(List<String> lots) throws Exception {
         int furnished = random.nextInt(4);
         for (int i = 0; i < furnished && left > 100; i++) {
             feedCamp();
@@ -73,6 +75,7 @@ public final class ModelTest {
             }
             both(plan[0], arguments);
         }
+        return isWrong;
     }
 
     /** One call of both. */
@@ -87,7 +90,7 @@ public final class ModelTest {
         for (int i = 0; i < boxed.length; i++) {
             Class<?> type = method.getParameterTypes()[i];
             boxed[i] = type == long.class ? (Object) arguments[i]
-                : type == boolean.class ? (Object) (arguments[i] != 0) : (Object) (int) arguments[i];
+                : type == boolean.class ? (Object) ((int) arguments[i] != 0) : (Object) (int) arguments[i];
             said.append(i == 0 ? "" : ", ").append(boxed[i]);
         }
         long got = ((Number) method.invoke(x, boxed)).longValue();
