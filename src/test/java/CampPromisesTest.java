@@ -58,6 +58,9 @@ public final class CampPromisesTest {
         Scene.refused(DUE, x, "call of NOTHING", Scene.NOTHING, () -> x.call(2, 1, 1, 1));
         x.row(3, 0, 2);
         Scene.refused(DUE, x, "call of fewer", Scene.BAD, () -> x.call(3, 3, 1, 1));
+        x.set(0, 0, 5);
+        Scene.refused(DUE, x, "call, its first no NOTE", Scene.BAD, () -> x.call(0, 2, 1, 1));
+        x.set(0, 0, 0);
         long[] noNotes = {5, 9, -1, 1L << 32};
         for (long v : noNotes) {
             x.set(0, 2, v);
@@ -176,6 +179,8 @@ public final class CampPromisesTest {
         DUE.same("camp adds to what there is: CALLS", x.status(0), 3);
         DUE.same("camp adds to what there is: MEN", x.status(2), 2);
         DUE.same("camp: refused", x.status(12), 0);
+        DUE.same("camp, blanks at both ends", Scene.read(x, "   lost 7   "), 1);
+        DUE.same("camp, blanks at both ends: LOST", x.status(6), 7);
         DUE.same("camp, edges", Scene.read(x, "sure 1000;lost 100;use 0 1;ear 0 0"), 4);
         DUE.same("camp, edges: SURE, LOST", x.status(5) * 1000 + x.status(6), 1000100);
     }
@@ -185,13 +190,32 @@ public final class CampPromisesTest {
         fault("   ", 3);
         fault("call", 4);
         fault("call ", 5);
+        fault("call ab", 7);
         fault("call ab 1 ", 10);
+        fault("call ab 1;", 9);
+        fault("ear", 3);
+        fault("ear 0", 5);
+        fault("ear 0 0;man", 11);
+        fault("ear 0 0;man 0", 13);
+        fault("sure", 4);
+        fault("lost", 4);
+        fault("call a 1 1;use", 14);
+        fault("call a 1 1;use 0", 16);
         fault("call ab 1 1;", 12);
         fault("call ab 1 1; ;", 13);
         fault(";sure 5", 0);
         fault(" Sure 5", 1);
         fault("sures 5", 0);
         fault("calla 5 5", 0);
+        fault("ball a 5 5", 0);
+        fault("far 0 0", 0);
+        fault("z", 0);
+        fault("call az 1 1", 5);
+        fault("call aA 1 1", 6);
+        fault("call {", 5);
+        fault("call `", 5);
+        fault("sure 5:", 6);
+        fault("sure 5/", 6);
         fault("12 5", 0);
         fault("call f 1 1", 5);
         fault("call aaaaaaaaa 1 1", 5);

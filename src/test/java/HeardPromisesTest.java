@@ -233,6 +233,7 @@ public final class HeardPromisesTest {
             Scene.camp("call ab 1 1;call cb 1 1;call abc 1 1;ear 1 1;ear 0 0").earFor(0), 1);
         DUE.same("earFor, fewer behind",
             Scene.camp("call eab 1 1;call dbb 1 1;ear 2 0;ear 0 0;ear 5 9").earFor(0), 1);
+        DUE.same("earFor, the only EAR", Scene.camp("call a 1 1;ear 1 5").earFor(0), 0);
         SoupOrHorses y = Scene.camp("call a 1 1");
         Scene.refused(DUE, y, "earFor(-1)", Scene.BAD, () -> y.earFor(-1));
         Scene.refused(DUE, y, "earFor(1)", Scene.BAD, () -> y.earFor(1));
@@ -244,6 +245,8 @@ public final class HeardPromisesTest {
         DUE.same("mean", x.mean(0), 4450);
         x.tell(3, 0, 10);
         DUE.same("mean, cut", x.mean(0), 4438);
+        DUE.same("mean of one", Scene.camp("call abc 7 1;ear 0 0").mean(0), 0);
+        DUE.same("mean of two", Scene.camp("call abc 7 1;call abc 1 1;ear 0 0").mean(0), 5000);
         SoupOrHorses y = Scene.camp("ear 0 0");
         Scene.refused(DUE, y, "mean(-1)", Scene.BAD, () -> y.mean(-1));
         Scene.refused(DUE, y, "mean(1)", Scene.BAD, () -> y.mean(1));
@@ -260,6 +263,7 @@ public final class HeardPromisesTest {
         DUE.same("worst by EAR, another COST", x.worst(1), 4);
         x.tell(0, 1, 0);
         DUE.same("worst, none has a RISK", x.worst(1), 0);
+        DUE.same("worst of one", Scene.camp("call abc 7 1;ear 0 0").worst(0), 0);
         SoupOrHorses y = Scene.camp("ear 0 0");
         Scene.refused(DUE, y, "worst(-1)", Scene.BAD, () -> y.worst(-1));
         Scene.refused(DUE, y, "worst(1)", Scene.BAD, () -> y.worst(1));
@@ -281,6 +285,10 @@ public final class HeardPromisesTest {
         DUE.same("next behind 5 by LATE", x.next(1, 5, 4), 64);
         DUE.same("next behind 6 by LATE", x.next(1, 6, 4), 0);
         DUE.same("next behind 8", x.next(1, 8, 4), 0);
+        SoupOrHorses y = Scene.camp("call abcdeabc 7 1;ear 0 0");
+        Scene.put(y, 0, 0, 1, 2, 3, 4, 0, 1, 2);
+        DUE.same("next of one", y.next(0, 7, 0), 4);
+        DUE.same("next of one behind 8", y.next(0, 8, 0), 64);
         x.show(2, 0);
         Scene.refused(DUE, x, "next(-1)", Scene.BAD, () -> x.next(-1, 0, 0));
         Scene.refused(DUE, x, "next n 9", Scene.BAD, () -> x.next(2, 9, 0));

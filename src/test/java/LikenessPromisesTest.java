@@ -103,6 +103,7 @@ public final class LikenessPromisesTest {
         SoupOrHorses y = Scene.camp("call aaa 1 1;call bbb 1 1;call bbc 1 1;call bcc 1 1");
         DUE.same("alike, two behind", y.alike(0), 102);
         DUE.same("alike, two behind: how far", y.alike(1), 1);
+        DUE.same("alike of two", Scene.camp("call a 1 1;call b 1 1").alike(0), 1);
         DUE.same("alike, lengths count", Scene.camp("call a 1 1;call aaaa 1 1;call b 1 1").alike(0), 2);
         Scene.refused(DUE, x, "alike(-1)", Scene.BAD, () -> x.alike(-1));
         Scene.refused(DUE, x, "alike(2)", Scene.BAD, () -> x.alike(2));

@@ -120,6 +120,8 @@ public final class MenPromisesTest {
             DUE.same("risk(" + call + ", EAR)", x.risk(call, 0), byEar[call]);
             DUE.same("risk(" + call + ", TORN)", x.risk(call, 1), byTorn[call]);
         }
+        DUE.same("risk of one", Scene.camp("call a 1 99;ear 0 0").risk(0, 0), 0);
+        DUE.same("risk of two", Scene.camp("call a 1 99;call a 1 3;ear 0 0").risk(0, 0), 1);
         Scene.refused(DUE, x, "risk(-1, 0)", Scene.BAD, () -> x.risk(-1, 0));
         Scene.refused(DUE, x, "risk(5, 0)", Scene.BAD, () -> x.risk(5, 0));
         Scene.refused(DUE, x, "risk(0, -1)", Scene.BAD, () -> x.risk(0, -1));

@@ -38,6 +38,8 @@ public final class ShelfPromisesTest {
         }
         DUE.same("row of none", x.row(7, 0, 0), 1);
         DUE.same("row of none: holds", x.holds(7), 0);
+        DUE.same("row of none: no element", x.set(7, 0, 1), Scene.BAD);
+        DUE.same("row of 40: no element more", x.set(0, 40, 1), Scene.BAD);
         x.set(0, 3, 77);
         DUE.same("row again", x.row(0, 0, 4), 1);
         DUE.same("row again: element", x.element(0, 3), 0);

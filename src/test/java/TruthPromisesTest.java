@@ -175,7 +175,10 @@ public final class TruthPromisesTest {
         x.ear(2, 3);
         x.show(1, 1);
         x.show(2, 0);
-        x.show(0, -1);
+        x.show(0, 1);
+        x.show(7, 1);
+        x.show(6, 0);
+        x.show(6, -1);
         Scene.put(x, 3, 4, 5);
         x.back();
         int[] want = {-1, -1, 10, 2, -1, -1, -1, -1};
