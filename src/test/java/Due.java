@@ -1,13 +1,20 @@
 /** Counts and prints the answers that are not the ones that are due. */
 final class Due {
+    private String words = "";
     private int wrong = 0;
     private int asked = 0;
+
+    /** Words of the document, which what is asked from here on is about. */
+    void about(String quoted) {
+        words = quoted;
+    }
 
     void same(String what, long got, long want) {
         asked++;
         if (got != want) {
             wrong++;
-            System.out.println(what + " answered " + got + ", due is " + want);
+            System.out.println((words.isEmpty() ? "" : "\"" + words + "\": ") + what + " answered " + got
+                + ", due is " + want);
         }
     }
 
