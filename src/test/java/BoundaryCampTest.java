@@ -306,6 +306,8 @@ public final class BoundaryCampTest {
         fault("call abcdeabf 1 1", 5);
         fault("call fbcdeabc 1 1", 5);
         fault("call z 1 1", 5);
+        fault("call az 1 1", 5);
+        fault("call aza 1 1", 5);
         fault("call 1 1", 5);
         fault("call ;", 5);
         SoupOrHorses x = Scene.camp("call abcdeabc 1 1;call e 1 1");

@@ -542,8 +542,8 @@ public final class BoundaryPromises1To19Test {
         for (int[] v : bad) {
             refuses("manOf(" + v[0] + ", " + v[1] + ")", Scene.BAD, x -> x.manOf(v[0], v[1]));
         }
-        SoupOrHorses x = whole();
-        DUE.same("the first", x.manOf(0, 0) * 10 + x.manOf(0, 1), 0);
-        DUE.same("the last", x.manOf(1, 0) * 10 + x.manOf(1, 1), 11);
+        SoupOrHorses x = Scene.camp("ear 0 0;ear 0 0;man 0 1;man 1 0");
+        DUE.same("the first", x.manOf(0, 0) * 10 + x.manOf(0, 1), 1);
+        DUE.same("the last", x.manOf(1, 0) * 10 + x.manOf(1, 1), 10);
     }
 }

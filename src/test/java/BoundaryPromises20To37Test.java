@@ -267,6 +267,8 @@ public final class BoundaryPromises20To37Test {
         DUE.same("the first of two that are fewer than NONE", x.earFor(0), 1);
         DUE.same("NONE by each", Scene.camp("call a 1 1;call a 1 1;ear 0 0;ear 1 1").earFor(1), 0);
         DUE.same("the first of all alike", Scene.camp("call a 1 1;ear 0 0;ear 1 1").earFor(0), 0);
+        DUE.same("ahead of one by which it is more", Scene.camp("call a 1 1;call b 1 1;ear 0 0;ear 1 1").earFor(0), 0);
+        DUE.same("the only EAR", Scene.camp("call a 1 1;ear 1 1").earFor(0), 0);
         DUE.same("the last of six", Scene.camp("call ab 1 1;call bb 1 1;ear 1 1;ear 1 1;ear 1 1;ear 1 1;ear 1 1;ear 0 0")
             .earFor(0), 5);
     }
@@ -309,6 +311,7 @@ public final class BoundaryPromises20To37Test {
 
     private static void promise28TheFirst() {
         doc.promise(28, "The CALL of the greatest RISK by an EAR, of several the first.");
+        DUE.same("one alone", Scene.camp("call a 1 1;ear 0 0").worst(0), 0);
         DUE.same("no RISK at all", Scene.camp("call a 1 1;call b 1 1;ear 0 0").worst(0), 0);
         DUE.same("two alike", Scene.camp("call b 9 9;call a 4 4;call a 4 4;ear 0 0").worst(0), 1);
         DUE.same("the other's COST", Scene.camp("call b 9 9;call a 4 4;call a 4 9;ear 0 0").worst(0), 1);

@@ -343,12 +343,17 @@ public final class BoundaryTermsTest {
         DUE.same("all", x.right(1), 4);
         DUE.same("the first of all", Scene.camp(calls + ";man 1 0").leads(0), 0);
         DUE.same("no MEN", Scene.camp(calls).leads(0), -1);
+        SoupOrHorses y = Scene.camp("call a 75 1;call b 25 1;ear 0 0;ear 1 1;sure 0;man 0 0;man 1 0");
+        DUE.same("he does CALL 0", y.leads(1), 1);
     }
 
     private static void riskIsCut() {
         doc.terms("USES of all others that FIT times their COST, by all USES that FIT (cut)");
         SoupOrHorses x = Scene.camp("call a 1 99;call a 99 99;call b 99 99;ear 0 0");
         DUE.same("99 times 99 by 100", x.risk(0, 0), 98);
+        x.tell(0, 0, 2);
+        DUE.same("198 by 101", x.risk(1, 0), 1);
+        x.tell(0, 0, 1);
         DUE.same("99 by 100", x.risk(1, 0), 0);
         DUE.same("no others", x.risk(2, 0), 0);
         x.tell(1, 1, 0);
