@@ -25,14 +25,17 @@ public final class ModelTest {
     private static final Map<String, Method> METHODS = new HashMap<>();
 
     private final Random random;
+    private final boolean isWide;
     private final SoupOrHorses x = new SoupOrHorses();
     private final Model model = new Model();
     private final StringBuilder said = new StringBuilder();
     private int left = CALLS;
     private boolean isWrong = false;
 
+    /** Each third run is a wide one: it begins with as many CALLS, EARS and MEN as can be, or nearly so. */
     private ModelTest(int run) {
         random = new Random(run);
+        isWide = run % 3 == 2;
     }
 
     public static void main(String[] args) throws Exception {
@@ -56,9 +59,10 @@ public final class ModelTest {
 
     /** Whether a run of calls, till the first wrong one, has such a one. */
     private boolean isWrong(List<String> lots) throws Exception {
-        int furnished = random.nextInt(4);
-        for (int i = 0; i < furnished && left > 100; i++) {
-            feedCamp();
+        if (isWide) {
+            fill();
+        } else {
+            furnish();
         }
         while (left > 0 && !isWrong) {
             if (random.nextInt(60) == 0) {
@@ -76,6 +80,34 @@ public final class ModelTest {
             both(plan[0], arguments);
         }
         return isWrong;
+    }
+
+    private void furnish() throws Exception {
+        int furnished = random.nextInt(4);
+        for (int i = 0; i < furnished && left > 100; i++) {
+            feedCamp();
+        }
+    }
+
+    /** Few NOTES and few USES, so that many CALLS are alike and many as likely. */
+    private void fill() throws Exception {
+        int noteKinds = 2 + random.nextInt(4);
+        int mostUse = random.nextBoolean() ? 5 : 99;
+        int longest = 2 + random.nextInt(7);
+        both("row", 7, random.nextInt(4), 8);
+        for (int call = 9 + random.nextInt(5); call > 0; call--) {
+            for (int i = 0; i < 3; i++) {
+                both("set", 7, random.nextInt(longest), random.nextInt(noteKinds));
+            }
+            int n = longest - (random.nextInt(3) == 0 ? random.nextInt(longest) : 0);
+            both("call", 7, n, 1 + random.nextInt(mostUse), random.nextInt(100));
+        }
+        for (int ear = 5 + random.nextInt(2); ear > 0; ear--) {
+            both("ear", random.nextInt(6), random.nextInt(longest));
+        }
+        for (int man = 7 + random.nextInt(3); man > 0; man--) {
+            both("man", random.nextInt(6), random.nextInt(2));
+        }
     }
 
     /** One call of both. */
@@ -165,14 +197,15 @@ public final class ModelTest {
             case 's':
                 return random.nextInt(8);
             case 'k':
+                return random.nextInt(6);
             case 'e':
-                return random.nextInt(6) / (letter == 'k' ? 1 : 2);
+                return random.nextInt(isWide ? 6 : 3);
             case 'E':
                 return random.nextInt(5) - 1;
             case 'c':
-                return random.nextInt(6);
+                return random.nextInt(isWide ? 12 : 6);
             case 'm':
-                return random.nextInt(4);
+                return random.nextInt(isWide ? 8 : 4);
             case 'l':
             case 'o':
                 return random.nextInt(2);
